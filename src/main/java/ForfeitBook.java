@@ -85,7 +85,7 @@ public final class ForfeitBook {
         if (other != NONE && !things.has(other)) return BAD;
         if (things.liesBeneath(t, other)) return STATE;
         int was = things.on[t];
-        things.on[t] = other;
+        things.layOn(t, other);
         return was;
     }
 
@@ -183,13 +183,13 @@ public final class ForfeitBook {
 
     public int moving(int d, int reading) {
         if (!deaths.hasReading(d, reading)) return BAD;
-        inquest.hear(d, reading);
+        inquest.hear(d, reading, reading);
         return tellSet(inquest.moving[reading]);
     }
 
     public int blame(int d, int reading) {
         if (!deaths.hasReading(d, reading)) return BAD;
-        inquest.hear(d, reading);
+        inquest.hear(d, reading, reading);
         return tellSet(inquest.blame[reading]);
     }
 
@@ -206,8 +206,9 @@ public final class ForfeitBook {
 
     public int forfeit(int d, int reading, int text) {
         if (!deaths.hasReading(d, reading) || !texts.has(text)) return BAD;
-        inquest.hear(d, reading);
-        return tellSet(inquest.falls(reading, texts.rule[text], texts.stood[text], texts.free[text]));
+        inquest.hear(d, reading, reading);
+        int spared = things.ofSorts(texts.free[text]);
+        return tellSet(inquest.falls(reading, texts.rule[text], texts.stood[text], spared));
     }
 
     public int value(int d, int reading) {
@@ -254,7 +255,7 @@ public final class ForfeitBook {
 
     /** What falls in all READINGS of a DEATH by the TEXT IN FORCE in its YEAR. */
     private void ruleNow(int d) {
-        inquest.hearAll(d);
+        inquest.hear(d, 0, deaths.readings(d) - 1);
         int text = texts.latestBy(deaths.year[d]);
         if (text == NONE) {
             now.letAllGo(inquest);
@@ -635,7 +636,10 @@ public final class ForfeitBook {
         }
     }
 
-    /** WHOLES never change, so TOPS and the WHOLES at all heights are kept; PRICES go along with each WORTH. */
+    /**
+     * WHOLES never change, so TOPS, PARTS and the WHOLES at all heights are kept; PRICES go along with each WORTH.
+     * What THINGS are laden with is kept apart from their PARTS, for a PART may lie ON its WHOLE and be lifted again.
+     */
     private static final class Things {
         private final int[] kind = new int[THINGS];
         private final int[] sort = new int[THINGS];
@@ -645,6 +649,8 @@ public final class ForfeitBook {
         private final int[] top = new int[THINGS];
         private final int[] wholes = new int[THINGS];
         private final int[] price = new int[THINGS];
+        private final int[] parts = new int[THINGS];
+        private final int[] laden = new int[THINGS];
         private int beasts = 0;
         private int standing = 0;
         private int count = 0;
@@ -662,6 +668,7 @@ public final class ForfeitBook {
             on[t] = NONE;
             top[t] = wholeOfIt == NONE ? t : top[wholeOfIt];
             wholes[t] = wholeOfIt == NONE ? 0 : wholes[wholeOfIt] | bitOf(wholeOfIt);
+            if (wholeOfIt != NONE) parts[wholeOfIt] |= bitOf(t);
             changeWorth(t, worthOfIt);
             if (isA(t, BEAST)) beasts |= bitOf(t);
             if (isA(t, STANDING)) standing |= bitOf(t);
@@ -679,6 +686,12 @@ public final class ForfeitBook {
             for (int u = 0; u < t; u++) {
                 if (isIn(wholes[t], u)) price[u] += more;
             }
+        }
+
+        void layOn(int t, int other) {
+            if (on[t] != NONE) laden[on[t]] &= ~bitOf(t);
+            if (other != NONE) laden[other] |= bitOf(t);
+            on[t] = other;
         }
 
         /** Whether the one that is asked for is found on the way from another one to what it lies ON, and so on. */
@@ -713,7 +726,7 @@ public final class ForfeitBook {
 
         int topsOf(int set) {
             int bits = 0;
-            for (int t = 0; t < count; t++) {
+            for (int t = 0; t < count && set >> t != 0; t++) {
                 if (isIn(set, t)) bits |= bitOf(top[t]);
             }
             return bits;
@@ -721,7 +734,7 @@ public final class ForfeitBook {
 
         int withoutPartsOf(int set) {
             int bits = 0;
-            for (int t = 0; t < count; t++) {
+            for (int t = 0; t < count && set >> t != 0; t++) {
                 if (isIn(set, t) && (wholes[t] & set) == 0) bits |= bitOf(t);
             }
             return bits;
@@ -729,28 +742,19 @@ public final class ForfeitBook {
 
         int priceOf(int set) {
             int sum = 0;
-            for (int t = 0; t < count; t++) {
+            for (int t = 0; t < count && set >> t != 0; t++) {
                 if (isIn(set, t)) sum += price[t];
             }
             return sum;
         }
 
-        /** PARTS of what is in a set, and what lies ON it. */
-        int borneBy(int set) {
-            int bits = 0;
-            for (int t = 0; t < count; t++) {
-                if (isIn(set, whole[t]) || isIn(set, on[t])) bits |= bitOf(t);
-            }
-            return bits;
+        /** What a THING takes along when it moves, if that does not stand. */
+        int borneBy(int t) {
+            return parts[t] | laden[t];
         }
 
-        /** WHOLES of what is in a set, and what it lies ON. */
-        int bearing(int set) {
-            int bits = 0;
-            for (int t = 0; t < count; t++) {
-                if (isIn(set, t)) bits |= bitOf(whole[t]) | bitOf(on[t]);
-            }
-            return bits;
+        int bearersOf(int t) {
+            return bitOf(whole[t]) | bitOf(on[t]);
         }
 
         long mixInto(long start) {
@@ -851,7 +855,7 @@ public final class ForfeitBook {
         int actors(int d, int so, int sort) {
             int bits = 0;
             for (int k = 0; k < actCount[d]; k++) {
-                if (isIn(so, k) && actSort[d * ACTS + k] == sort) bits |= bitOf(actA[d * ACTS + k]);
+                if (actSort[d * ACTS + k] == sort && isIn(so, k)) bits |= bitOf(actA[d * ACTS + k]);
             }
             return bits;
         }
@@ -860,18 +864,18 @@ public final class ForfeitBook {
             return actors(d, so, STRIKES) | actors(d, so, FELL);
         }
 
-        int movedBy(int d, int so, int movers) {
+        int movedBy(int d, int so, int t) {
             int bits = 0;
             for (int k = 0; k < actCount[d]; k++) {
-                if (isIn(so, k) && isIn(movers, actA[d * ACTS + k])) bits |= bitOf(actB[d * ACTS + k]);
+                if (isIn(so, k) && actA[d * ACTS + k] == t) bits |= bitOf(actB[d * ACTS + k]);
             }
             return bits;
         }
 
-        int moversOf(int d, int so, int moved) {
+        int moversOf(int d, int so, int t) {
             int bits = 0;
             for (int k = 0; k < actCount[d]; k++) {
-                if (isIn(so, k) && isIn(moved, actB[d * ACTS + k])) bits |= bitOf(actA[d * ACTS + k]);
+                if (isIn(so, k) && actB[d * ACTS + k] == t) bits |= bitOf(actA[d * ACTS + k]);
             }
             return bits;
         }
@@ -994,44 +998,44 @@ public final class ForfeitBook {
             deaths = deathsOfBook;
         }
 
-        void hearAll(int d) {
+        void hear(int d, int first, int last) {
             readings = deaths.readings(d);
-            for (int reading = 0; reading < readings; reading++) {
-                hear(d, reading);
+            for (int reading = first; reading <= last; reading++) {
+                int so = deaths.actsThatWereSo(d, reading);
+                moving[reading] = whatMoves(d, so);
+                hit[reading] = deaths.hit(d, so);
+                blame[reading] = whatIsToBlame(d, so, moving[reading], hit[reading]);
             }
         }
 
-        void hear(int d, int reading) {
-            int so = deaths.actsThatWereSo(d, reading);
-            moving[reading] = whatMoves(d, so);
-            hit[reading] = deaths.hit(d, so);
-            blame[reading] = whatIsToBlame(d, so, moving[reading], hit[reading]);
-        }
-
-        /** Each round but the last one adds a THING, so there are no more rounds than THINGS. */
+        /** Each step follows one THING and none twice, so there are no more steps than THINGS. */
         private int whatMoves(int d, int so) {
             int set = deaths.actors(d, so, GOES) & things.beasts;
-            for (int round = 0; round < THINGS; round++) {
-                int wider = set | (things.borneBy(set) | deaths.movedBy(d, so, set)) & ~things.standing;
-                if (wider == set) break;
-                set = wider;
+            int toFollow = set;
+            for (int step = 0; step < THINGS && toFollow != 0; step++) {
+                int t = Integer.numberOfTrailingZeros(toFollow);
+                int more = (things.borneBy(t) | deaths.movedBy(d, so, t)) & ~things.standing & ~set;
+                set |= more;
+                toFollow = toFollow & ~bitOf(t) | more;
             }
             return set;
         }
 
         private int whatIsToBlame(int d, int so, int movingThen, int hitThen) {
             int set = hitThen & movingThen;
-            for (int round = 0; round < THINGS; round++) {
-                int wider = set | (things.bearing(set) | deaths.moversOf(d, so, set)) & movingThen;
-                if (wider == set) break;
-                set = wider;
+            int toFollow = set;
+            for (int step = 0; step < THINGS && toFollow != 0; step++) {
+                int t = Integer.numberOfTrailingZeros(toFollow);
+                int more = (things.bearersOf(t) | deaths.moversOf(d, so, t)) & movingThen & ~set;
+                set |= more;
+                toFollow = toFollow & ~bitOf(t) | more;
             }
             return set;
         }
 
-        /** What is forfeit in a READING that was heard, by a law. */
-        int falls(int reading, int rule, boolean stood, int free) {
-            return things.withoutPartsOf(counting(reading, rule, stood) & ~things.ofSorts(free));
+        /** What is forfeit in a READING that was heard, by a law that spares some THINGS. */
+        int falls(int reading, int rule, boolean stood, int spared) {
+            return things.withoutPartsOf(counting(reading, rule, stood) & ~spared);
         }
 
         private int counting(int reading, int rule, boolean stood) {
@@ -1055,9 +1059,10 @@ public final class ForfeitBook {
         }
 
         void rule(Inquest inquest, int rule, boolean stood, int free) {
+            int spared = things.ofSorts(free);
             readings = inquest.readings;
             for (int reading = 0; reading < readings; reading++) {
-                sets[reading] = inquest.falls(reading, rule, stood, free);
+                sets[reading] = inquest.falls(reading, rule, stood, spared);
             }
             findDue();
         }
