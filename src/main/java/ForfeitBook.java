@@ -18,7 +18,7 @@ public final class ForfeitBook {
     private static final int TEXTS = 8, TOPS_OF_HIT = 0, HIT = 1, TOPS_OF_BLAME = 2, BLAME = 3;
     private static final int GRANTS = 10, LORDS = 8, KING = 9, TWELFTHS = 12;
     private static final int ALL_SORTS = 10;
-    // Every CHANCE is told of as many throws as there can be DEATHS, so that any two compare as whole numbers.
+    // Every CHANCE is told of as many coins as there can be DEATHS, so that any two compare as whole numbers.
     private static final int CHANCES = 1 << DEATHS;
     private static final int CHANGES = 16;
 
@@ -297,26 +297,26 @@ public final class ForfeitBook {
 
     /** The CHANCE of a HABIT, of CHANCES in all; NONE, if no DEATH there and then can be CUT. */
     private int chanceOf(int place, int from, int to) {
-        int throwsMade = 0;
+        int coins = 0;
         int cut = 0;
         for (int d = 0; d < deaths.count; d++) {
             if (deaths.place[d] != place || !deaths.isWithin(d, from, to) || deaths.told[d] == NONE) continue;
             ruleNow(d);
             if (now.dueValue <= 0) continue;
-            throwsMade++;
+            coins++;
             if (2 * deaths.told[d] < now.dueValue) cut++;
         }
-        if (throwsMade == 0) return NONE;
-        return waysToFall(throwsMade, cut) << (DEATHS - throwsMade);
+        if (coins == 0) return NONE;
+        return waysToFall(coins, cut) << (DEATHS - coins);
     }
 
-    /** In how many of all ways so many throws can fall, that many or more are heads. */
-    private static int waysToFall(int throwsMade, int heads) {
+    /** In how many of the ways in which so many coins can fall that many or more are heads. */
+    private static int waysToFall(int coins, int heads) {
         int sum = 0;
         int ways = 1;
-        for (int k = 0; k <= throwsMade; k++) {
+        for (int k = 0; k <= coins; k++) {
             if (k >= heads) sum += ways;
-            ways = ways * (throwsMade - k) / (k + 1);
+            ways = ways * (coins - k) / (k + 1);
         }
         return sum;
     }

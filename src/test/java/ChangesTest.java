@@ -218,6 +218,7 @@ public final class ChangesTest {
         x.act(0, STRIKES, 0, 0, true);
         x.act(0, STRIKES, 2, 0, true);
         least(x, 0, 0, 0);
+        least(x, 1, 0, 10);
         x.death(0, 1500, NONE);
         x.act(1, STRIKES, 0, 0, true);
         x.act(1, STRIKES, 1, 0, true);

@@ -76,6 +76,10 @@ public final class JuriesTest {
             fell(x, 0, 1500, one[1], one[0]);
             habit("habit, told " + one[1], x, new int[] {0, 1500, 1500}, 0, 1, one[2]);
         }
+        ForfeitBook x = book();
+        x.worth(2, 1);
+        fell(x, 0, 1500, 0, 2);
+        habit("habit of a penny that is DUE", x, new int[] {0, 1500, 1500}, 0, 1, 2);
     }
 
     private static void habitOfPlaceAndYears() {

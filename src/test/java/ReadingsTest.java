@@ -42,6 +42,11 @@ public final class ReadingsTest {
         moving("a THING does not go of itself", dead(GOES, STONE, 0), 0);
         moving("a THING with PARTS does not", dead(GOES, CART, 0), 0);
         moving("a STANDING one does not", dead(GOES, HOUSE, 0), 0);
+        ForfeitBook x = new ForfeitBook();
+        x.thing(0, 0, 0, NONE);
+        x.death(0, 1500, NONE);
+        x.act(0, GOES, 0, 0, true);
+        moving("a THING of number 0", x, 0);
         moving("what strikes does not move by that", dead(STRIKES, STONE, 0, FELL, OX, 0), 0);
     }
 
@@ -108,6 +113,8 @@ public final class ReadingsTest {
             dead(GOES, OX, 0, MOVES, OX, SACK, STRIKES, SACK, 0), 0, OX, SACK);
         toBlame("by way of one that does not move",
             dead(GOES, OX, 0, MOVES, OX, JUG, MOVES, OX, CART, STRIKES, JUG, 0), 0, OX, JUG);
+        toBlame("one that moves beside them",
+            dead(MOVES, MILL, STONE, GOES, MILL, 0, GOES, OX, 0, STRIKES, STONE, 0), 0, MILL, STONE);
         toBlame("told backwards, three deep",
             dead(STRIKES, JUG, 0, MOVES, STONE, JUG, MOVES, SACK, STONE, MOVES, OX, CART, GOES, OX, 0), 0,
             OX, CART, SACK, STONE, JUG);

@@ -227,9 +227,22 @@ public final class TextsTest {
         x.act(1, FELL, HOUSE, 0, true);
         Check.told(x, "sure() of one READING", () -> x.sure(1, false), 1, Scene.set(HOUSE));
         Check.told(x, "maybe of one READING", () -> x.sure(1, true), 1, Scene.set(HOUSE));
+        wholeInsteadOfPart();
         Check.bad(x, "sure(2, false)", () -> x.sure(2, false));
         Check.bad(x, "sure(-1, true)", () -> x.sure(-1, true));
         Check.bad(x, "sure(NONE, true)", () -> x.sure(NONE, true));
+    }
+
+    /** A PART that is forfeit in one READING falls with its WHOLE in another one, and is in neither surely. */
+    private static void wholeInsteadOfPart() {
+        ForfeitBook x = Scene.things();
+        x.text(1000, 1, true, 0);
+        x.death(0, 1500, NONE);
+        x.act(0, STRIKES, KNOB, 0, true);
+        x.act(0, STRIKES, CART, 0, false);
+        Check.told(x, "sure() of a PART and its WHOLE", () -> x.sure(0, false), 0, 0);
+        Check.told(x, "maybe of a PART and its WHOLE", () -> x.sure(0, true), 2, Scene.set(KNOB, CART));
+        Check.told(x, "due() of the PART", () -> x.due(0), 16, 0);
     }
 
     private static void due() {
@@ -269,6 +282,14 @@ public final class TextsTest {
         last.act(0, FELL, SACK, 0, true);
         last.act(0, FELL, STONE, 0, true);
         Check.told(last, "due(): all alike, the first", () -> last.due(0), 288, 0);
+        ForfeitBook before = Scene.things();
+        before.text(1500, 1, true, 0);
+        before.death(0, 1500, NONE);
+        before.death(0, 1499, NONE);
+        before.act(0, FELL, HOUSE, 0, true);
+        before.act(1, FELL, HOUSE, 0, true);
+        Check.told(before, "due() of the YEAR of the TEXT", () -> before.due(0), 1024, 0);
+        Check.told(before, "due() of the YEAR ahead", () -> before.due(1), 0, 0);
         dueIsOfTheFirstReading();
         Check.bad(x, "due(1)", () -> x.due(1));
         Check.bad(x, "due(-1)", () -> x.due(-1));
