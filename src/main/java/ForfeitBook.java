@@ -1035,14 +1035,11 @@ public final class ForfeitBook {
 
         /** What is forfeit in a READING that was heard, by a law that spares some THINGS. */
         int falls(int reading, int rule, boolean stood, int spared) {
-            return things.withoutPartsOf(counting(reading, rule, stood) & ~spared);
-        }
-
-        private int counting(int reading, int rule, boolean stood) {
             boolean byHit = rule == TOPS_OF_HIT || rule == HIT;
             int set = byHit ? hit[reading] & moving[reading] : blame[reading];
             if (stood) set |= hit[reading] & ~moving[reading];
-            return rule == TOPS_OF_HIT || rule == TOPS_OF_BLAME ? things.topsOf(set) : set;
+            if (rule == TOPS_OF_HIT || rule == TOPS_OF_BLAME) set = things.topsOf(set);
+            return things.withoutPartsOf(set & ~spared);
         }
     }
 
