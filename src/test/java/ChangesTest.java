@@ -13,6 +13,7 @@ public final class ChangesTest {
         leastChangeByBlame();
         leastChangeWithoutDeaths();
         leastChangeOfMixedSorts();
+        leastChangeUndoneByALaterDeath();
         Check.end();
     }
 
@@ -225,5 +226,29 @@ public final class ChangesTest {
         least(x, 0, 0, NONE);
         least(x, 1, 0, 10);
         least(x, 2, 0, 10);
+    }
+
+    /** The first DEATH leaves no CHANGE but the very first one, and a later DEATH not even that. */
+    private static void leastChangeUndoneByALaterDeath() {
+        ForfeitBook y = new ForfeitBook();
+        y.thing(1, 0, 1, NONE);
+        y.thing(0, 1, 2, NONE);
+        y.thing(0, 2, 4, 1);
+        y.thing(3, 3, 8, NONE);
+        y.thing(1, 4, 16, NONE);
+        y.text(1000, 0, false, 0);
+        y.text(1600, 0, true, 0);
+        y.death(0, 1500, NONE);
+        y.act(0, GOES, 0, 0, true);
+        y.act(0, GOES, 4, 0, true);
+        y.act(0, MOVES, 4, 1, true);
+        y.act(0, STRIKES, 2, 0, true);
+        y.act(0, STRIKES, 0, 0, true);
+        y.act(0, FELL, 3, 0, true);
+        least(y, 1, 0, 0);
+        y.death(0, 1600, NONE);
+        y.act(1, FELL, 3, 0, true);
+        least(y, 1, 0, NONE);
+        least(y, 3, 0, 0);
     }
 }
