@@ -3,14 +3,20 @@ import java.util.function.IntSupplier;
 /** What the tests of the project share: answers held against those that are due, and refusals that change nothing. */
 final class Check {
     private static int wrong = 0;
+    private static String heading = "";
 
     private Check() {
+    }
+
+    /** What is told ahead of each wrong answer from here on. */
+    static void under(String words) {
+        heading = words + ": ";
     }
 
     static void due(String call, long got, long want) {
         if (got != want) {
             wrong++;
-            System.out.println(call + " answered " + got + ", due is " + want);
+            System.out.println(heading + call + " answered " + got + ", due is " + want);
         }
     }
 
