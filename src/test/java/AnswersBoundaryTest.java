@@ -40,8 +40,8 @@ public final class AnswersBoundaryTest extends Boundary {
     }
 
     private static void badAheadOfFull() {
-        says("ANSWERS", "Refused is, the first of these that fits, in this order: BAD -1 (a number that is none, or not"
-            + " as told), FULL -2");
+        says("ANSWERS", "Refused is, the first of these that fits, in this order: BAD -1 (a number that is none, or"
+            + " not as told), FULL -2");
         ForfeitBook x = fullBook();
         full(x, "thing", THING, 0, 0, NONE);
         bad(x, "thing", 4, 0, 0, NONE);
@@ -141,12 +141,12 @@ public final class AnswersBoundaryTest extends Boundary {
 
     private static void refusedChangesNothing() {
         says("ANSWERS", "What is refused changes nothing but finding(), findings().");
-        ForfeitBook x = fullBook();
-        x.habit(0, 1000, 1900);
-        x.told(7, 2);
-        finds(x, BEYOND, "lay", 0, 40, 1);
-        finds(x, SIZE, "row", 0, -1);
         for (String name : REFUSABLE) {
+            ForfeitBook x = fullBook();
+            x.habit(0, 1000, 1900);
+            x.told(7, 2);
+            finds(x, BEYOND, "lay", 0, 40, 1);
+            finds(x, SIZE, "row", 0, -1);
             for (int odd : new int[] {MIN, MAX, -1, NONE, 2000}) {
                 bad(x, name, odd, odd, odd, odd, odd, odd);
             }
@@ -225,7 +225,8 @@ public final class AnswersBoundaryTest extends Boundary {
     }
 
     private static void fractions() {
-        says("ANSWERS", "Fractions are told by upper() and lower(), in lowest terms, the lower number above 0 (0 by 1).");
+        says("ANSWERS", "Fractions are told by upper() and lower(), in lowest terms, the lower number above 0 (0 by"
+            + " 1).");
         ForfeitBook x = things(STANDING, 1);
         Check.due("upper() before any", x.upper(), 0);
         Check.due("lower() before any", x.lower(), 1);

@@ -133,7 +133,8 @@ class Boundary {
     static void withinOrNone(Supplier<ForfeitBook> fresh, int at, int least, int most, String name, int... p) {
         for (int edge : new int[] {least, most}) {
             long answer = Calls.make(fresh.get(), name, with(p, at, edge));
-            Check.isTrue(told(name, with(p, at, edge)) + " is not refused, but " + answer, answer >= 0 || answer == NONE);
+            String call = told(name, with(p, at, edge)) + " answered " + answer + ", and should not be refused";
+            Check.isTrue(call, answer >= 0 || answer == NONE);
         }
         // Numbers that a shift, a cast to a smaller type or a sum that wraps around would take for one within.
         int[] beyond = {least - 1, most + 1, -1, least - 32, most + 32, least + 64, least + (1 << 8), most + (1 << 16),

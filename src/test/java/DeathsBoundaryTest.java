@@ -176,8 +176,8 @@ public final class DeathsBoundaryTest extends Boundary {
     }
 
     private static void acts() {
-        says("Promise 14", "ACTS of a DEATH by a ROW: four places each (sort, a, b, 1 sure or 0 doubtful), in the place"
-            + " of those it has: how many.");
+        says("Promise 14", "ACTS of a DEATH by a ROW: four places each (sort, a, b, 1 sure or 0 doubtful), in the"
+            + " place of those it has: how many.");
         ForfeitBook x = deaths(12);
         fillActs(x, 5, 10, 5);
         quiet(x, 10, "acts", 11, 5);
@@ -250,10 +250,10 @@ public final class DeathsBoundaryTest extends Boundary {
 
     private static void actsNotAsTold() {
         says("Promise 14", "; UNLIKE: one that is not as told");
-        int[][] unlike = {{-1, 0, 1, 1}, {4, 0, 1, 1}, {MIN, 0, 1, 1}, {MAX, 0, 1, 1}, {GOES, 2, 1, 1}, {GOES, -1, 1, 1},
-            {STRIKES, NONE, 1, 1}, {FELL, 32, 1, 1}, {MOVES, 0, 2, 1}, {MOVES, 0, -1, 1}, {MOVES, 0, NONE, 1},
-            {MOVES, 0, 0, 1}, {MOVES, 1, 1, 0}, {MOVES, 2, 2, 1}, {GOES, 0, 1, 2}, {GOES, 0, 1, -1}, {GOES, 0, 1, NONE},
-            {GOES, 0, 1, MIN}, {GOES, 0, 1, MAX}, {GOES, 0, 1, 257}};
+        int[][] unlike = {{-1, 0, 1, 1}, {4, 0, 1, 1}, {MIN, 0, 1, 1}, {MAX, 0, 1, 1}, {GOES, 2, 1, 1},
+            {GOES, -1, 1, 1}, {STRIKES, NONE, 1, 1}, {FELL, 32, 1, 1}, {MOVES, 0, 2, 1}, {MOVES, 0, -1, 1},
+            {MOVES, 0, NONE, 1}, {MOVES, 0, 0, 1}, {MOVES, 1, 1, 0}, {MOVES, 2, 2, 1}, {GOES, 0, 1, 2},
+            {GOES, 0, 1, -1}, {GOES, 0, 1, NONE}, {GOES, 0, 1, MIN}, {GOES, 0, 1, MAX}, {GOES, 0, 1, 257}};
         ForfeitBook x = deaths(1);
         x.act(0, GOES, 1, 0, false);
         for (int[] one : unlike) {
@@ -287,8 +287,8 @@ public final class DeathsBoundaryTest extends Boundary {
     }
 
     private static void deathTold() {
-        says("Promise 15", "Of a DEATH: 0 PLACE, 1 YEAR, 2 the told worth (NONE), 3 how many ACTS, 4 how many of these are"
-            + " doubtful, 5 READINGS, told by asked(): 1.");
+        says("Promise 15", "Of a DEATH: 0 PLACE, 1 YEAR, 2 the told worth (NONE), 3 how many ACTS, 4 how many of these"
+            + " are doubtful, 5 READINGS, told by asked(): 1.");
         ForfeitBook x = deaths(0);
         x.death(0, 1000, NONE);
         for (int d = 1; d < 11; d++) {
@@ -522,8 +522,8 @@ public final class DeathsBoundaryTest extends Boundary {
     }
 
     private static void settle() {
-        says("Promise 25", "The doubtful ACT (its number among ACTS) that, once known to be so or not, leaves the fewest"
-            + " unlike sets in the worse case");
+        says("Promise 25", "The doubtful ACT (its number among ACTS) that, once known to be so or not, leaves the"
+            + " fewest unlike sets in the worse case");
         ForfeitBook x = things(STANDING, 5);
         addThings(x, BEAST, 1);
         x.text(1500, 1, true, 0);

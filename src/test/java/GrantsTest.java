@@ -38,7 +38,7 @@ public final class GrantsTest {
         Check.bad(x, "an eleventh GRANT: BAD ahead of FULL", () -> x.grant(0, 0, 1500, 1500, 0, 0));
     }
 
-    /** THINGS 0, 1, 2 of their own SORT, 100 pence each, and 3 of SORT 9; all STOOD and strike in PLACE 4, YEAR 1500. */
+    /** THINGS 0, 1, 2 of their own SORT, 100 pence each, and 3 of SORT 9; all STOOD and strike in PLACE 4, 1500. */
     private static ForfeitBook book() {
         ForfeitBook x = new ForfeitBook();
         x.thing(3, 0, 100, NONE);

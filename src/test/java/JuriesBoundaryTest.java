@@ -210,8 +210,8 @@ public final class JuriesBoundaryTest extends Boundary {
     }
 
     private static void shortfallBelow0() {
-        says("Promise 29", " (below 0: more), over DEATHS with a told worth from a YEAR to a YEAR, told by asked(): how"
-            + " many DEATHS.");
+        says("Promise 29", " (below 0: more), over DEATHS with a told worth from a YEAR to a YEAR, told by asked():"
+            + " how many DEATHS.");
         ForfeitBook x = book();
         for (int d = 0; d < 12; d++) {
             fell(x, 0, 1500, 100000, 1);
@@ -304,8 +304,8 @@ public final class JuriesBoundaryTest extends Boundary {
     }
 
     private static void takes() {
-        says("Promise 32", "What a LORD (9: the KING) takes of all DEATHS from a YEAR to a YEAR, told by asked(): of how"
-            + " many DEATHS.");
+        says("Promise 32", "What a LORD (9: the KING) takes of all DEATHS from a YEAR to a YEAR, told by asked(): of"
+            + " how many DEATHS.");
         ForfeitBook x = dearest(NONE);
         tells(x, 12, 2400000, "takes", KING, 1500, 1511);
         tells(x, 12, 2400000, "takes", KING, 1000, 1900);
@@ -450,8 +450,8 @@ public final class JuriesBoundaryTest extends Boundary {
     }
 
     private static void leastChange() {
-        says("Promise 36", "THE LEAST CHANGE that frees a SORT, free SORTS as told: 100 times the RULE, 10 times STOOD,"
-            + " and 1 with the SORT");
+        says("Promise 36", "THE LEAST CHANGE that frees a SORT, free SORTS as told: 100 times the RULE, 10 times"
+            + " STOOD, and 1 with the SORT");
         keeps(beastAndHouse(0), 0, "leastChange", 9, 0);
         keeps(beastAndHouse(0), 11, "leastChange", 0, 0);
         keeps(beastAndHouse(0), 10, "leastChange", 8, 0);

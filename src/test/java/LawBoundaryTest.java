@@ -79,8 +79,8 @@ public final class LawBoundaryTest extends Boundary {
     }
 
     private static void habit() {
-        says("3", "HABIT of a PLACE from a YEAR to a YEAR: of n DEATHS there and then with DUE above 0 and told worths k"
-            + " are CUT");
+        says("3", "HABIT of a PLACE from a YEAR to a YEAR: of n DEATHS there and then with DUE above 0 and told worths"
+            + " k are CUT");
         ForfeitBook x = fallen(100, 0);
         x.thing(STANDING, 0, 0, NONE);
         int[][] aside = {{1, 1500, 0, 0}, {0, 1499, 0, 0}, {0, 1501, 0, 0}, {0, 1500, NONE, 0}, {0, 1500, 0, 1}};
@@ -207,7 +207,8 @@ public final class LawBoundaryTest extends Boundary {
     }
 
     private static void twelfthsCut() {
-        says("3", "; of its PRICE he takes the TWELFTHS, cut, the KING (9) what is left (all, if there is no such GRANT).");
+        says("3", "; of its PRICE he takes the TWELFTHS, cut, the KING (9) what is left (all, if there is no such"
+            + " GRANT).");
         shares(11, 1, 0, 11);
         shares(12, 1, 1, 11);
         shares(13, 1, 1, 12);

@@ -4,7 +4,7 @@ import java.util.Random;
 /** All promises: long runs of calls, chosen by fixed seeds, answered alike by ForfeitBook and by PlainBook. */
 public final class ModelTest {
     private static final int NONE = ForfeitBook.NONE;
-    private static final int RUNS = 100, CALLS = 512;
+    private static final int RUNS = 120, CALLS = 512;
     private static final String[] TELLING = {"told", "mark", "mean", "deathTold", "moving", "blame", "inForce",
         "forfeit", "value", "sure", "due", "unlike", "settle", "habit", "worstPlace", "shortfall", "taker", "takes",
         "otherwise", "freed", "shift", "leastChange", "count", "findings"};
@@ -21,7 +21,7 @@ public final class ModelTest {
     private ModelTest(int run) {
         this.run = run;
         random = new Random(run);
-        oddness = new int[] {0, 10, 30, 100}[run % 4];
+        oddness = new int[] {0, 10, 30, 100, 400}[run % 5];
     }
 
     public static void main(String[] args) {
@@ -48,7 +48,7 @@ public final class ModelTest {
 
     /** A book that is worth asking: without it most calls would be refused. */
     private void setUp() {
-        if (run % 20 == 0) {
+        if (run % 13 == 0) {
             fillUp();
             return;
         }

@@ -187,8 +187,8 @@ public final class RowsBoundaryTest extends Boundary {
     }
 
     private static void copy() {
-        says("Promise 5", "n places of a ROW, from one on, come to those of another one (perhaps itself) from one on, as"
-            + " if taken ahead: 1.");
+        says("Promise 5", "n places of a ROW, from one on, come to those of another one (perhaps itself) from one on,"
+            + " as if taken ahead: 1.");
         ForfeitBook x = numbered();
         quiet(x, 1, "copy", 0, 0, 5, 0, 40);
         for (int i = 0; i < 40; i++) {
@@ -255,8 +255,8 @@ public final class RowsBoundaryTest extends Boundary {
     private static void copyBeyond() {
         says("Promise 5", " BEYOND: not so many there.");
         ForfeitBook x = numbered();
-        int[][] beyond = {{0, 0, 41}, {1, 0, 40}, {40, 0, 1}, {39, 0, 2}, {-1, 0, 1}, {-1, 0, 0}, {-1, 0, 41}, {41, 0, 0},
-            {MIN, 0, 1}, {MIN, 0, MAX}, {MAX, 0, 1}, {MAX, 0, MAX}, {MAX, 0, 0}, {1, 0, MAX}, {-40, 0, 40}};
+        int[][] beyond = {{0, 0, 41}, {1, 0, 40}, {40, 0, 1}, {39, 0, 2}, {-1, 0, 1}, {-1, 0, 0}, {-1, 0, 41},
+            {41, 0, 0}, {MIN, 0, 1}, {MIN, 0, MAX}, {MAX, 0, 1}, {MAX, 0, MAX}, {MAX, 0, 0}, {1, 0, MAX}, {-40, 0, 40}};
         for (int[] one : beyond) {
             finds(x, BEYOND, "copy", 0, one[0], 5, one[1], one[2]);
             finds(x, BEYOND, "copy", 5, one[1], 0, one[0], one[2]);

@@ -16,6 +16,7 @@ public final class TermsBoundaryTest extends Boundary {
         twelveDeaths();
         placeYearWorth();
         tenActs();
+        tenActsOfTheTwelfthDeath();
         fiveDoubtful();
         reading();
         readings0And31();
@@ -164,8 +165,8 @@ public final class TermsBoundaryTest extends Boundary {
     }
 
     private static void placeYearWorth() {
-        says("1", ": in a PLACE 0 .. 7, in a YEAR 1000 .. 1900, with what a jury told that what is forfeit is worth"
-            + " (0 .. 100000; NONE: a gap).");
+        says("1", ": in a PLACE 0 .. 7, in a YEAR 1000 .. 1900, with what a jury told that what is forfeit is worth (0"
+            + " .. 100000; NONE: a gap).");
         within(ForfeitBook::new, 0, 0, 7, "death", 0, 1500, 0);
         within(ForfeitBook::new, 1, 1000, 1900, "death", 0, 1500, 0);
         withinOrNone(ForfeitBook::new, 2, 0, 100000, "death", 0, 1500, 0);
@@ -173,7 +174,8 @@ public final class TermsBoundaryTest extends Boundary {
     }
 
     private static void tenActs() {
-        says("1", "ACTS of a DEATH (10 at most): 0 GOES a; 1 a MOVES b; 2 a STRIKES (the one who dies); 3 he FELL from a");
+        says("1", "ACTS of a DEATH (10 at most): 0 GOES a; 1 a MOVES b; 2 a STRIKES (the one who dies); 3 he FELL from"
+            + " a");
         Supplier<ForfeitBook> fresh = () -> {
             ForfeitBook x = things(THING, 2);
             die(x);
@@ -189,6 +191,29 @@ public final class TermsBoundaryTest extends Boundary {
             full(x, "act", 0, sort, 0, 1, DOUBTFUL);
         }
         tells(x, 1, 10, "deathTold", 0, 3);
+    }
+
+    /** In a book that is full of all, nothing stands behind the last ACT, and no GRANT behind the last. */
+    private static void tenActsOfTheTwelfthDeath() {
+        says("1", "ACTS of a DEATH (10 at most)");
+        ForfeitBook x = fullBook();
+        tells(x, 0, 0, "moving", 11, 31);
+        tells(x, 0, 0, "blame", 11, 31);
+        tells(x, 100000, 1023, "value", 11, 31);
+        tells(x, 5, 0b0101010101, "sure", 11, 0);
+        tells(x, 10, 1023, "sure", 11, 1);
+        tells(x, 50000, 0, "due", 11);
+        keeps(x, 32, "unlike", 11);
+        tells(x, 1, 16, "settle", 11);
+        keeps(x, 12, "mark", 3, STANDING);
+        tells(x, KING, 10000, "taker", 11, 8);
+        tells(x, 1, 50000, "takes", KING, 1889, 1889);
+        tells(x, 12, 4095, "freed", 3, MOVED, 1023);
+        fill(x, 5, GOES, 9, 0, SURE, MOVES, 9, 0, SURE, MOVES, 0, 1, SURE, MOVES, 1, 2, SURE, MOVES, 2, 4, SURE,
+            MOVES, 4, 5, SURE, MOVES, 5, 6, SURE, MOVES, 6, 8, SURE, MOVES, 8, 10, SURE, STRIKES, 10, 0, SURE);
+        answers(x, 10, "acts", 11, 5);
+        tells(x, 9, 0b11101110111, "moving", 11, 0);
+        tells(x, 9, 0b11101110111, "blame", 11, 0);
     }
 
     private static void fiveDoubtful() {

@@ -58,8 +58,8 @@ final class TextsTerms extends Boundary {
     }
 
     private static void whatStood() {
-        says("2", "; by 0 and 1 what is HIT counts only if it is MOVING, unless what STOOD counts, too (1; then by 2 and"
-            + " 3 what is HIT and not MOVING counts, too)");
+        says("2", "; by 0 and 1 what is HIT counts only if it is MOVING, unless what STOOD counts, too (1; then by 2"
+            + " and 3 what is HIT and not MOVING counts, too)");
         int[] stood = {0b1000, 0b10000, 0b1000, 0b10000};
         int[] both = {0b1001, 0b10001, 0b1001, 0b10001};
         for (int rule = 0; rule <= 3; rule++) {
@@ -126,6 +126,13 @@ final class TextsTerms extends Boundary {
         keeps(x, NONE, "taker", 0, 0);
         x.text(1500, 1, true, 0);
         tells(x, 1, 1, "value", 0, 0);
+        x.death(0, 1499, 0);
+        x.act(1, FELL, 0, 0, true);
+        tells(x, 1, 0, "due", 0);
+        tells(x, 0, 0, "due", 1);
+        tells(x, 1, 0, "due", 0);
+        keeps(x, NONE, "taker", 1, 0);
+        finds(x, NOUGHT, "habit", 0, 1000, 1499);
     }
 
     private static void forfeitWithoutFree() {

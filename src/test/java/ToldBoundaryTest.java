@@ -280,8 +280,8 @@ public final class ToldBoundaryTest extends Boundary {
     }
 
     private static void digestOfOneOfEach() {
-        says("Promise 43", "; of each THING told() 0 to 6; of each DEATH deathTold() 0 to 5, of each ACT of it sort, a, b"
-            + " (NONE, but of MOVES), 1 or 0 (doubtful); of each TEXT YEAR, RULE, 1 or 0 (STOOD), free SORTS");
+        says("Promise 43", "; of each THING told() 0 to 6; of each DEATH deathTold() 0 to 5, of each ACT of it sort,"
+            + " a, b (NONE, but of MOVES), 1 or 0 (doubtful); of each TEXT YEAR, RULE, 1 or 0 (STOOD), free SORTS");
         ForfeitBook x = new ForfeitBook();
         List<Integer> values = new ArrayList<>(List.of(2, 1, 4, 2, 0, 0));
         x.thing(STANDING, 9, 10000, NONE);
@@ -302,8 +302,8 @@ public final class ToldBoundaryTest extends Boundary {
     }
 
     private static void digestWrapsAround() {
-        says("Promise 43", "; of each GRANT LORD, PLACE, both YEARS, SORTS, TWELFTHS; of each ROW its size (-1: missing)"
-            + " and places.");
+        says("Promise 43", "; of each GRANT LORD, PLACE, both YEARS, SORTS, TWELFTHS; of each ROW its size (-1:"
+            + " missing) and places.");
         ForfeitBook x = new ForfeitBook();
         List<Integer> values = new ArrayList<>(List.of(0, 0, 0, 0, 10, 5));
         for (int g = 0; g < 10; g++) {
