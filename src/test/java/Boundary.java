@@ -45,6 +45,11 @@ class Boundary {
         return line.startsWith("## ") ? line.substring(3).split(":")[0] : null;
     }
 
+    /** All words of a section, or none if the document was not found. */
+    static String wordsOf(String section) {
+        return document.getOrDefault(section, "");
+    }
+
     static void says(String section, String words) {
         Check.under(section + " says \"" + words + "\"");
         String text = document.get(section);
@@ -188,6 +193,11 @@ class Boundary {
     /** As many of all as there can be: 20 THINGS, 12 DEATHS of 10 ACTS, 8 TEXTS, 10 GRANTS, 6 ROWS of 40. */
     static ForfeitBook fullBook() {
         ForfeitBook x = new ForfeitBook();
+        fillUp(x);
+        return x;
+    }
+
+    static void fillUp(ForfeitBook x) {
         for (int t = 0; t < 20; t++) {
             x.thing(t % 4, t % 10, 10000, NONE);
         }
@@ -206,6 +216,5 @@ class Boundary {
         for (int r = 0; r < 6; r++) {
             x.row(r, 40);
         }
-        return x;
     }
 }
